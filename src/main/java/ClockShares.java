@@ -619,7 +619,7 @@ public final class ClockShares {
         }
 
         private void skipBlanks() {
-            while (at < length && byteAt(at) == BLANK) {
+            while (at < length && at < MOST_BYTES && bytes[at] == BLANK) {
                 at++;
             }
         }
@@ -748,7 +748,12 @@ public final class ClockShares {
             length = 0;
             boolean needsLine = text.goesOn();
             for (int line = 0; needsLine && line < MOST_LINES; line++) {
-                readLine(text, line);
+                kinds[line] = readKind(text);
+                amounts[line] = text.takeNumber(0, 20);
+                if (text.takeWord("if")) {
+                    readCondition(text, 0);
+                }
+                ends[line] = length;
                 lines = line + 1;
                 needsLine = text.goesOn();
                 if (needsLine) {
@@ -763,15 +768,6 @@ public final class ClockShares {
 
         Law lawRead() {
             return new Law(lines, kinds, amounts, ends, Arrays.copyOf(code, length));
-        }
-
-        private void readLine(Tape text, int line) {
-            kinds[line] = readKind(text);
-            amounts[line] = text.takeNumber(0, 20);
-            if (text.takeWord("if")) {
-                readCondition(text, 0);
-            }
-            ends[line] = length;
         }
 
         private int readKind(Tape text) {
@@ -821,18 +817,14 @@ public final class ClockShares {
             } else if (text.takeWord("wished")) {
                 put(Law.WISHED);
             } else {
-                readComparison(text);
+                readSum(text);
+                boolean less = text.takeSign('<');
+                if (!less) {
+                    text.needSign('>');
+                }
+                readSum(text);
+                put(less ? Law.LESS : Law.MORE);
             }
-        }
-
-        private void readComparison(Tape text) {
-            readSum(text);
-            boolean less = text.takeSign('<');
-            if (!less) {
-                text.needSign('>');
-            }
-            readSum(text);
-            put(less ? Law.LESS : Law.MORE);
         }
 
         private void readSum(Tape text) {
@@ -1117,7 +1109,7 @@ public final class ClockShares {
         int bulkLeftByOthers(int family) {
             int sum = 0;
             for (int thing = 0; thing < count; thing++) {
-                if (isLeft(thing) && owner[thing] != family) {
+                if (((left >> thing) & 1) == 1 && owner[thing] != family) {
                     sum += bulk[thing];
                 }
             }
