@@ -105,6 +105,14 @@ final class AheadTest {
         PROBE.fails("no family", IndexOutOfBoundsException.class, () -> x.ruin(-1));
         PROBE.is("purse stays", x.family(0, 0), 22);
         PROBE.is("things stay", x.count(14), 7);
+        PROBE.is("ahead nobody visits", dearQuarrels().ruin(0), -1);
+    }
+
+    /** A family of 25 that is fined 20 more, if there were visitors ahead of its going. */
+    private static ClockShares dearQuarrels() {
+        ClockShares x = Probe.house("family purse 25 dust 0 stove 0 hours 0 to 3;thing 0 bulk 4 left;guests 100");
+        Probe.law(x, "fine 20 if quarrel > 3");
+        return x;
     }
 
     private static void trial() {
@@ -119,6 +127,8 @@ final class AheadTest {
             PROBE.fails("trial(" + n + ")", IllegalArgumentException.class, () -> x.trial(n, false));
         }
         nothingStays(x);
+        PROBE.is("visitors make the fine dearer", dearQuarrels().trial(4, true), 0);
+        PROBE.is("as in truth", dearQuarrels().hours(4), 1);
         for (int seed = -3; seed < 9; seed++) {
             ClockShares y = Probe.house(HOUSE);
             y.seed(seed * 77777);

@@ -11,6 +11,7 @@ final class LawTest {
         depth();
         replaced();
         faults();
+        fullTape();
         whats();
         PROBE.finish();
     }
@@ -157,6 +158,22 @@ final class LawTest {
         PROBE.lawFault("warm 1 if + 1 < 3", 10);
         PROBE.lawFault("warm 1 if NIGHT", 10);
         PROBE.lawFault("warm 1 if night\u00e9", 15);
+    }
+
+    /** A text of all 400 bytes, of which nearly every byte is a step of its own. */
+    private static void fullTape() {
+        String ones = "1" + "+1".repeat(192);
+        String right = "warm 9 if " + ones + ">192";
+        PROBE.is("length", (right + " ").length(), 400);
+        PROBE.is("193 is more than 192", under(right + " ").does(0, 0, 0), 11);
+        PROBE.is("193 is not more than 193", under(right.replace("192", "193") + " ").does(0, 0, 0), 2);
+        PROBE.lawFault(right + "+", 400);
+        PROBE.lawFault(right + "(", 399);
+        String deep = "((((((1<2 or 2<1 and 1<2) or 2<1 and 1<2) or 2<1 and 1<2) or 2<1 and 1<2) or 2<1 and 1<2) or 2<1 and 1<2)";
+        PROBE.is("deep joins", holds(deep + " or 2<1 and 1<2", 0, 0), 1);
+        String right6 = "2<1 or 1<2 and (2<1 or 1<2 and (2<1 or 1<2 and (2<1 or 1<2 and (2<1 or 1<2 and (2<1 or 1<2 and (2<1 or 1<2 and 2+3<3+4))))))";
+        PROBE.is("joins that wait at all depths", holds(right6, 0, 0), 1);
+        PROBE.is("joins that wait at all depths", holds(right6.replace("2+3<3+4", "2+3<3+1"), 0, 0), 0);
     }
 
     private static void whats() {
