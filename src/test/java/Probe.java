@@ -1,10 +1,19 @@
+import java.io.IOException;
+import java.io.UncheckedIOException;
+import java.nio.file.Files;
+import java.nio.file.Path;
+
 /** Counts the calls of a test whose answers are not due, and ends the test by them. */
 final class Probe {
+    private static final Path DOCUMENT = Path.of("../shared/DOC.md");
+
     interface Call {
         long answer();
     }
 
     private final String test;
+    private String document = null;
+    private String sentence = "";
     private int checks = 0;
     private int wrong = 0;
 
@@ -51,15 +60,51 @@ final class Probe {
         x.law();
     }
 
+    /** The words of the document that the checks behind this one are for; they must stand there. */
+    void of(String words) {
+        checks++;
+        sentence = " (" + words + ")";
+        if (!document().contains(words)) {
+            wrong++;
+            System.out.println(test + ": the document does not say: " + words);
+        }
+    }
+
+    private String document() {
+        try {
+            document = document == null ? Files.readString(DOCUMENT) : document;
+        } catch (IOException e) {
+            throw new UncheckedIOException(e);
+        }
+        return document;
+    }
+
     void is(String what, boolean got, boolean due) {
         is(what, got ? 1 : 0, due ? 1 : 0);
+    }
+
+    /** Of two long texts only the place is told where they part. */
+    void is(String what, String got, String due) {
+        checks++;
+        if (!got.equals(due)) {
+            wrong++;
+            int at = 0;
+            while (at < got.length() && at < due.length() && got.charAt(at) == due.charAt(at)) {
+                at++;
+            }
+            System.out.println(test + ": " + what + " at " + at + " is " + excerpt(got, at) + ", due is " + excerpt(due, at) + sentence);
+        }
+    }
+
+    private static String excerpt(String text, int at) {
+        return text.substring(at, Math.min(text.length(), at + 30));
     }
 
     void is(String what, long got, long due) {
         checks++;
         if (got != due) {
             wrong++;
-            System.out.println(test + ": " + what + " answered " + got + ", due is " + due);
+            System.out.println(test + ": " + what + " answered " + got + ", due is " + due + sentence);
         }
     }
 
@@ -69,11 +114,11 @@ final class Probe {
         try {
             long got = call.answer();
             wrong++;
-            System.out.println(test + ": " + what + " answered " + got + ", due is " + due.getSimpleName());
+            System.out.println(test + ": " + what + " answered " + got + ", due is " + due.getSimpleName() + sentence);
         } catch (RuntimeException e) {
             if (e.getClass() != due) {
                 wrong++;
-                System.out.println(test + ": " + what + " threw " + e + ", due is " + due.getSimpleName());
+                System.out.println(test + ": " + what + " threw " + e + ", due is " + due.getSimpleName() + sentence);
             }
         }
     }

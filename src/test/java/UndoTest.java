@@ -15,36 +15,6 @@ final class UndoTest {
         PROBE.finish();
     }
 
-    /** All numbers that can be asked, as one text. */
-    private static String all(ClockShares x) {
-        StringBuilder text = new StringBuilder();
-        for (int what = 0; what <= 16; what++) {
-            text.append(x.count(what)).append(' ');
-        }
-        for (int hour = 0; hour < 24; hour++) {
-            text.append(x.holds(hour)).append(' ');
-        }
-        for (int family = 0; family < x.count(0); family++) {
-            for (int what = 0; what <= 8; what++) {
-                text.append(x.family(family, what)).append(' ');
-            }
-            text.append(x.does(family, 0, 0)).append(' ').append(x.does(family, 0, 1)).append(' ');
-        }
-        for (int thing = 0; thing < x.count(1); thing++) {
-            for (int what = 0; what <= 3; what++) {
-                text.append(x.thing(thing, what)).append(' ');
-            }
-        }
-        for (int ago = 0; ago < 61; ago++) {
-            for (int what = 0; what < 5; what++) {
-                text.append(x.log(ago, what)).append(' ');
-            }
-        }
-        int seed = x.seed(0);
-        x.seed(seed);
-        return text.append(seed).toString();
-    }
-
     private static void act(ClockShares x, int which) {
         switch (which) {
             case 0 -> x.sell(0, 1);
@@ -63,12 +33,12 @@ final class UndoTest {
         for (int which = 0; which <= 8; which++) {
             ClockShares x = Probe.house(HOUSE);
             x.hours(2);
-            String before = all(x);
+            String before = Snapshot.state(x);
             act(x, which);
-            PROBE.is("act " + which + " changes something", all(x).equals(before), false);
+            PROBE.is("act " + which + " changes something", Snapshot.state(x).equals(before), false);
             PROBE.is("acts", x.count(17), 2);
             PROBE.is("undo of act " + which, x.undo(), true);
-            PROBE.is("all as ahead of act " + which, all(x).equals(before), true);
+            PROBE.is("all as ahead of act " + which, Snapshot.state(x).equals(before), true);
             PROBE.is("acts", x.count(17), 1);
         }
     }
@@ -77,20 +47,20 @@ final class UndoTest {
         ClockShares x = Probe.house(HOUSE);
         String[] before = new String[30];
         for (int i = 0; i < 30; i++) {
-            before[i] = all(x);
+            before[i] = Snapshot.state(x);
             x.hours(1 + i);
             PROBE.is("acts", x.count(17), Math.min(12, i + 1));
         }
         for (int i = 29; i >= 18; i--) {
             PROBE.is("undo", x.undo(), true);
-            PROBE.is("all as ahead of act " + i, all(x).equals(before[i]), true);
+            PROBE.is("all as ahead of act " + i, Snapshot.state(x).equals(before[i]), true);
             PROBE.is("acts", x.count(17), i - 18);
         }
         PROBE.is("no more", x.undo(), false);
-        PROBE.is("nothing happens", all(x).equals(before[18]), true);
+        PROBE.is("nothing happens", Snapshot.state(x).equals(before[18]), true);
         x.dust();
         PROBE.is("undo of a new act", x.undo(), true);
-        PROBE.is("all as ahead", all(x).equals(before[18]), true);
+        PROBE.is("all as ahead", Snapshot.state(x).equals(before[18]), true);
     }
 
     private static void notActs() {
@@ -140,7 +110,7 @@ final class UndoTest {
         x.hours(3);
         PROBE.is("acts stay if none was kept", x.back(), false);
         PROBE.is("acts stay if none was kept", x.count(17), 1);
-        String kept = all(x);
+        String kept = Snapshot.state(x);
         x.image();
         PROBE.is("acts stay as the image is kept", x.count(17), 1);
         x.sell(0, 1);
@@ -149,28 +119,28 @@ final class UndoTest {
         Probe.feed(x, "family purse 1 dust 1 stove 1 hours 0 to 23 wishes 0 to 9;thing 2 bulk 9 left;price 3;fine 4;wishes 0 0 to 0");
         x.deed();
         Probe.law(x, "warm 1;dust 2;fine 3");
-        PROBE.is("all has changed", all(x).equals(kept), false);
+        PROBE.is("all has changed", Snapshot.state(x).equals(kept), false);
         PROBE.is("back", x.back(), true);
-        PROBE.is("all as kept", all(x).equals(kept), true);
+        PROBE.is("all as kept", Snapshot.state(x).equals(kept), true);
         PROBE.is("no acts", x.count(17), 0);
         PROBE.fails("no such family any more", IndexOutOfBoundsException.class, () -> x.family(2, 0));
         PROBE.fails("no such thing any more", IndexOutOfBoundsException.class, () -> x.thing(2, 0));
         x.hours(9);
         PROBE.is("back again", x.back(), true);
-        PROBE.is("all as kept", all(x).equals(kept), true);
+        PROBE.is("all as kept", Snapshot.state(x).equals(kept), true);
     }
 
     private static void imageStays() {
         ClockShares x = Probe.house(HOUSE);
         x.image();
         x.hours(1);
-        String later = all(x);
+        String later = Snapshot.state(x);
         x.image();
         x.undo();
         PROBE.is("undone", x.count(4), 0);
         x.feed(1, 2, 3, 4, 5);
         PROBE.is("back", x.back(), true);
-        PROBE.is("one image, the latest", all(x).equals(later), true);
+        PROBE.is("one image, the latest", Snapshot.state(x).equals(later), true);
         PROBE.is("the tape stays", x.end(20), true);
         PROBE.fails("a wrong text", IllegalArgumentException.class, x::deed);
         PROBE.is("fault", x.fault(), 0);
