@@ -1,3 +1,5 @@
+import java.lang.reflect.Field;
+
 /** The boundary cases of acts, of acts undone, and of the image. */
 final class EdgesOfActsTest {
     private static final Probe PROBE = new Probe("EdgesOfActsTest");
@@ -16,6 +18,7 @@ final class EdgesOfActsTest {
         noSuchHour();
         noSuchFamilyOrThing();
         twelveRemembered();
+        eachActIsOne();
         hoursOfOneCall();
         noneRemembered();
         whatUndoLeaves();
@@ -49,8 +52,38 @@ final class EdgesOfActsTest {
             purse += 99;
             PROBE.is("purse", rich.sell(hour, 1), purse);
         }
+        PROBE.of("PURSE 0 to 9999");
         PROBE.is("above 999", rich.family(0, 0), 1989);
+        soldToTheBrim();
         PROBE.fails("9 are less than 99", STATE, () -> rich.sell(10, 1));
+    }
+
+    /** Six purses of 999 never come to 9999, so that this purse is put into the object from outside. */
+    private static void soldToTheBrim() {
+        PROBE.of("(9999 at most)");
+        int[][] rows = {{9899, 9998}, {9900, 9999}, {9901, 9999}, {9999, 9999}};
+        for (int[] row : rows) {
+            ClockShares x = two(999, 99);
+            putPurse(x, 0, row[0]);
+            PROBE.is("a purse of " + row[0] + " and 99", x.sell(0, 1), row[1]);
+            PROBE.is("as told", x.family(0, 0), row[1]);
+            PROBE.is("the buyer pays all", x.family(1, 0), 900);
+        }
+    }
+
+    private static void putPurse(ClockShares x, int family, int purse) {
+        try {
+            Object purses = inside(inside(inside(x, "now"), "families"), "purse");
+            ((int[]) purses)[family] = purse;
+        } catch (ReflectiveOperationException e) {
+            throw new IllegalStateException(e);
+        }
+    }
+
+    private static Object inside(Object of, String name) throws ReflectiveOperationException {
+        Field field = of.getClass().getDeclaredField(name);
+        field.setAccessible(true);
+        return field.get(of);
     }
 
     private static void soldByTheLastHour() {
@@ -181,6 +214,8 @@ final class EdgesOfActsTest {
             PROBE.fails("bids(0, 1, " + hour + ")", none, () -> x.bids(0, 1, hour));
         }
         PROBE.is("no act", x.count(17), 0);
+        PROBE.of("Who HOLDS an HOUR; NONE.");
+        PROBE.is("of nobody", x.holds(2), ClockShares.NONE);
         PROBE.is("the first hour", x.holds(0), 0);
         PROBE.is("the last hour", x.holds(23), 1);
         PROBE.is("the last hour", x.does(0, 23, 0), 0);
@@ -253,6 +288,50 @@ final class EdgesOfActsTest {
             x.undo();
         }
         PROBE.is("hour", x.count(5) * 24 + x.count(4), 60 - 22);
+    }
+
+    private interface Act {
+        long on(ClockShares x);
+    }
+
+    /** In hour 2, with a quarrel, dirt, a thing left and one taken along. */
+    private static ClockShares readyForActs() {
+        ClockShares x = Probe.house("family purse 30 dust 2 stove 5 hours 0 to 3;family purse 50 dust 1 stove 0 hours 4 to 5;thing 0 bulk 5 left;thing 0 bulk 2;guests 100");
+        x.hours(2);
+        return x;
+    }
+
+    private static void eachActIsOne() {
+        PROBE.of("all is as ahead of it");
+        Act[] acts = {x -> x.sell(0, 1), x -> x.buy(9, 1), x -> x.swap(3, 4), x -> x.free(5), x -> x.leave(1), x -> x.fetch(0), x -> x.quiet(), x -> x.dust(), x -> x.hours(1)};
+        String before = Snapshot.state(readyForActs());
+        for (int i = 0; i < acts.length; i++) {
+            ClockShares x = readyForActs();
+            acts[i].on(x);
+            PROBE.is("act " + i + " is remembered", x.count(17), 2);
+            PROBE.is("act " + i + " changes something", Snapshot.state(x).equals(before), false);
+            PROBE.is("act " + i + " is undone", x.undo(), true);
+            PROBE.is("all as ahead of act " + i, Snapshot.state(x), before);
+        }
+        logThatGoesRound();
+    }
+
+    /** Rows that were pushed out of the log come back. */
+    private static void logThatGoesRound() {
+        ClockShares x = Probe.house("family purse 30 dust 0 stove 0 hours 0 to 10;family purse 30 dust 0 stove 0 hours 11 to 23;guests 100");
+        x.hours(50);
+        String before = Snapshot.state(x);
+        x.image();
+        x.hours(100);
+        String later = Snapshot.state(x);
+        x.hours(33);
+        x.undo();
+        PROBE.is("rows as ahead of 33 hours", Snapshot.state(x), later);
+        x.undo();
+        PROBE.is("rows as ahead of 100 hours", Snapshot.state(x), before);
+        x.hours(77);
+        x.back();
+        PROBE.is("rows of the image", Snapshot.state(x), before);
     }
 
     private static void hoursOfOneCall() {

@@ -16,6 +16,7 @@ final class EdgesOfHoursTest {
         quarrelAtNine();
         quarrelOfTheOneIn();
         behindTwentyThree();
+        lastDay();
         changeOfFamilies();
         noChange();
         outByAnAct();
@@ -233,6 +234,28 @@ final class EdgesOfHoursTest {
         PROBE.is("day", x.count(5), 2);
     }
 
+    /** No object is promised so many calls, but these words hold behind them, too. */
+    private static void lastDay() {
+        PROBE.of("DAY 1 more, 9999 at most");
+        ClockShares x = Probe.house(ALL_DAY + ";guests 100");
+        for (int i = 0; i < 2399; i++) {
+            x.hours(100);
+        }
+        x.hours(75);
+        PROBE.is("the day ahead of the last one", x.count(5), 9998);
+        PROBE.is("hour", x.count(4), 23);
+        x.hours(1);
+        PROBE.is("the last day", x.count(5), 9999);
+        x.hours(23);
+        PROBE.is("the last day", x.count(5), 9999);
+        x.hours(1);
+        PROBE.is("9999 at most", x.count(5), 9999);
+        PROBE.is("the hour goes on", x.count(4), 0);
+        x.hours(100);
+        PROBE.is("9999 at most", x.count(5), 9999);
+        PROBE.is("in the log, too", x.log(0, 0), 9999);
+    }
+
     private static void changeOfFamilies() {
         PROBE.of("If the one IN then is another one (or none) than in (a), and there was one");
         String things = ";thing 0 bulk 1 left;thing 1 bulk 1 left";
@@ -380,8 +403,15 @@ final class EdgesOfHoursTest {
         PROBE.of("LED: how many rows of THE LOG are of a FAMILY; the DAY of the latest (none).");
         PROBE.is("rows of both kinds", x.led(1, false), 2);
         PROBE.is("day of the latest", x.led(1, true), 1);
+        PROBE.of("LED: how many rows (day false), or the DAY; NONE.");
         PROBE.is("no row", x.led(0, false), 0);
         PROBE.is("no day", x.led(0, true), ClockShares.NONE);
+        ClockShares y = Probe.house("family purse 9 dust 0 stove 0 hours 22 to 23;family purse 9 dust 0 stove 0 hours 0 to 21;hour 22;guests 100");
+        y.hours(10);
+        PROBE.is("rows ahead of another one's", y.led(0, false), 2);
+        PROBE.is("their day", y.led(0, true), 0);
+        PROBE.is("the other one's rows", y.led(1, false), 8);
+        PROBE.is("their day", y.led(1, true), 1);
         Probe.feed(x, "hours 0 0 to 23");
         x.deed();
         x.hours(60);

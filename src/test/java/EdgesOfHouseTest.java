@@ -27,14 +27,23 @@ final class EdgesOfHouseTest {
     }
 
     private static void atFirst() {
-        PROBE.of("A house of nobody.");
+        PROBE.of("each HELD by a FAMILY or by nobody (at first)");
         ClockShares x = new ClockShares();
+        PROBE.is("hours of nobody", x.gaps(), ALL);
+        PROBE.of("A house of nobody.");
         for (int hour = 0; hour < 24; hour++) {
             PROBE.is("who has hour " + hour, x.holds(hour), ClockShares.NONE);
         }
         PROBE.is("families", x.count(0), 0);
         PROBE.is("things", x.count(1), 0);
         PROBE.is("texts", x.count(2), 0);
+        PROBE.is("lines of the law", x.count(3), ClockShares.NONE);
+        PROBE.is("things left", x.count(14), 0);
+        PROBE.is("rows", x.count(16), 0);
+        PROBE.is("acts", x.count(17), 0);
+        PROBE.is("undo", x.undo(), false);
+        PROBE.is("back", x.back(), false);
+        PROBE.is("tape", Snapshot.tapeLength(x), 0);
         PROBE.of("HOUR: 0 to 23 (0 at first), DAY (0 at first).");
         PROBE.is("hour", x.count(4), 0);
         PROBE.is("day", x.count(5), 0);
@@ -42,7 +51,10 @@ final class EdgesOfHouseTest {
         PROBE.is("heat", x.count(6), 10);
         PROBE.is("dirt", x.count(7), 0);
         PROBE.is("quarrel", x.count(8), 0);
+        PROBE.of("9 of whom it is (NONE)");
         PROBE.is("of whom", x.count(9), ClockShares.NONE);
+        PROBE.of("15 the one IN (NONE)");
+        PROBE.is("the one in", x.count(15), ClockShares.NONE);
         PROBE.of("COLD 0 to 9 (1 at first): what is lost in an HOUR. FINE 0 to 20 (2 at first). PRICE 0 to 99 (10 at first). GUESTS 0 to 100 (0 at first).");
         PROBE.is("cold", x.count(10), 1);
         PROBE.is("fine", x.count(11), 2);
@@ -184,11 +196,25 @@ final class EdgesOfHouseTest {
         PROBE.is("a sum of many", holds("999+999+999+999+999+999+999+999 < 999+999+999+999+999+999+999+998+1", 0, 0), false);
         PROBE.is("a sum of many", holds("999+999+999+999+999+999+999+999 < 999+999+999+999+999+999+999+999+1", 0, 0), true);
         PROBE.of("C: ALL { or ALL }; ALL: ATOM { and ATOM }; ATOM: not ATOM | ( C ) | night | wished");
+        PROBE.is("one of three by or", holds("1<2 or 2<1 or 2<1", 0, 0), true);
+        PROBE.is("one of three by or", holds("2<1 or 1<2 or 2<1", 0, 0), true);
+        PROBE.is("one of three by or", holds("2<1 or 2<1 or 1<2", 0, 0), true);
+        PROBE.is("none of three by or", holds("2<1 or 2<1 or 2<1", 0, 0), false);
+        PROBE.is("all of three by and", holds("1<2 and 1<2 and 1<2", 0, 0), true);
+        PROBE.is("all but one of three by and", holds("1<2 and 2<1 and 1<2", 0, 0), false);
         PROBE.is("or of an and", holds("1<2 or 1<2 and 2<1", 0, 0), true);
         PROBE.is("and of an or in brackets", holds("(1<2 or 1<2) and 2<1", 0, 0), false);
         PROBE.is("not of the first alone", holds("not 1<2 or 1<2", 0, 0), true);
         PROBE.is("not of the first alone", holds("not 2<1 and 2<1", 0, 0), false);
         PROBE.is("not of both", holds("not (2<1 and 2<1)", 0, 0), true);
+        PROBE.is("more that does not hold, and", holds("2>3 and 1<2", 0, 0), false);
+        PROBE.is("more that does not hold, or", holds("2>3 or 2<1", 0, 0), false);
+        PROBE.is("not of more", holds("not 2>3", 0, 0), true);
+        PROBE.is("not of wished", holds("not wished", 0, 0), true);
+        PROBE.is("wished that does not hold, and", holds("wished and 1<2", 0, 0), false);
+        PROBE.is("wished that does not hold, or", holds("wished or 2<1", 0, 0), false);
+        PROBE.is("not of night", holds("not night", 0, 12), true);
+        PROBE.is("night that does not hold, and", holds("night and 1<2", 0, 12), false);
         PROBE.is("not of not", holds("not not 1<2", 0, 0), true);
     }
 

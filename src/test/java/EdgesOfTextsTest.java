@@ -9,6 +9,7 @@ final class EdgesOfTextsTest {
         numbersOfTheLaw();
         wordsOfTheDeed();
         wordsOfTheLaw();
+        kindsOfWrong();
         wordsGoOn();
         blanks();
         noLine();
@@ -119,6 +120,9 @@ final class EdgesOfTextsTest {
             for (String none : new String[] {"zz", "_", "?", "=", "familys", "}", "\u007f", "\u0080", "\0"}) {
                 wrong(ahead + none, isDeed, at);
             }
+            if (isDeed && Character.isLetter(thing.charAt(0))) {
+                wrong(ahead + "1 to 2", true, at);
+            }
             boolean mayEnd = thing.endsWith("|");
             String bare = mayEnd ? thing.substring(0, thing.length() - 1) : thing;
             ahead.append(bare);
@@ -169,6 +173,10 @@ final class EdgesOfTextsTest {
             wrong("warm 1 if 1 < " + word, false, 14);
             wrong("warm 1 if 1 + " + word + " > 1", false, 14);
         }
+        wrong("1", false, 0);
+        wrong("warm 1 1 night", false, 7);
+        wrong("warm 1 night", false, 7);
+        wrong("warm 1 if night 1", false, 16);
         wrong("warm 1 if night < 1", false, 16);
         wrong("warm 1 if 1 < 2 > 1", false, 16);
         wrong("warm 1 if 1 < = 2", false, 14);
@@ -179,6 +187,19 @@ final class EdgesOfTextsTest {
         wrong("warm 1 if ()", false, 11);
         wrong("warm 1 if night; if night", false, 17);
         wrong("warm 1 if night if night", false, 16);
+    }
+
+    private static void kindsOfWrong() {
+        PROBE.of("(a number of more digits, or out of its bounds, or that tells none that can be; a word that is none;");
+        wrong("cold 1; cold 0009;zz", true, 13);
+        wrong("cold 1; cold 10;zz", true, 13);
+        wrong("cold 1; hours 2 1 to 3;zz", true, 14);
+        wrong("cold 1; colds 1;zz", true, 8);
+        PROBE.of("THE LAW: how many LINES. IllegalArgumentException: the text is wrong.");
+        wrong("warm 1; warm 0009;zz", false, 13);
+        wrong("warm 1; warm 21;zz", false, 13);
+        wrong("warm 1; warms 1;zz", false, 8);
+        wrong("warm 1 if hour < 0999; warm 21", false, 17);
     }
 
     private static void wordsGoOn() {
