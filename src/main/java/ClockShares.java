@@ -96,7 +96,7 @@ public final class ClockShares {
         int held = now.heldBy(1 << family);
         switch (what) {
             case 0:
-                return now.families.purse[family];
+                return now.families.purseOf(family);
             case 1:
                 return now.families.dust[family];
             case 2:
@@ -143,22 +143,22 @@ public final class ClockShares {
         needFamily(family);
         int seller = now.holder[hour];
         needOther(seller, family);
-        needThat(seller != NONE && now.families.purse[family] >= now.price);
+        needThat(seller != NONE && now.families.purseOf(family) >= now.price);
         memory.keep(now);
         now.families.pay(family, now.price);
         now.families.earn(seller, now.price);
         now.holder[hour] = family;
-        return now.families.purse[seller];
+        return now.families.purseOf(seller);
     }
 
     public int buy(int hour, int family) throws IndexOutOfBoundsException, IllegalStateException {
         needHour(hour);
         needFamily(family);
-        needThat(now.holder[hour] == NONE && now.families.purse[family] >= now.price);
+        needThat(now.holder[hour] == NONE && now.families.purseOf(family) >= now.price);
         memory.keep(now);
         now.families.pay(family, now.price);
         now.holder[hour] = family;
-        return now.families.purse[family];
+        return now.families.purseOf(family);
     }
 
     public int swap(int hour, int other) throws IndexOutOfBoundsException, IllegalArgumentException, IllegalStateException {
@@ -201,11 +201,11 @@ public final class ClockShares {
 
     public int quiet() throws IllegalStateException {
         int in = now.inside();
-        needThat(in != NONE && now.quarrel > 0 && now.families.purse[in] >= now.quarrel);
+        needThat(in != NONE && now.quarrel > 0 && now.families.purseOf(in) >= now.quarrel);
         memory.keep(now);
         now.families.pay(in, now.quarrel);
         now.quarrel = 0;
-        return now.families.purse[in];
+        return now.families.purseOf(in);
     }
 
     public int dust() {
@@ -350,7 +350,7 @@ public final class ClockShares {
         needFamily(family);
         draft.copyFrom(now);
         for (int n = 0; n <= MOST_AHEAD; n++) {
-            if (draft.families.purse[family] == 0) {
+            if (draft.families.purseOf(family) == 0) {
                 return n;
             }
             draft.passHour(false);
@@ -1014,6 +1014,10 @@ public final class ClockShares {
                 }
             }
             return wished;
+        }
+
+        int purseOf(int family) {
+            return has(family) ? purse[family] : 0;
         }
 
         void pay(int family, int sum) {
