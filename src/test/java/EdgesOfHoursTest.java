@@ -21,6 +21,7 @@ final class EdgesOfHoursTest {
         noChange();
         outByAnAct();
         finesByNumbers();
+        eightThings();
         purseAtLeast();
         hourAsItIsThen();
         fineOfNothing();
@@ -318,6 +319,15 @@ final class EdgesOfHoursTest {
         PROBE.is("the third one, with 4 left", x.log(0, 4), 3 + 5);
         PROBE.is("purse", x.family(0, 0), 100 - 17 - 8);
         PROBE.is("rows", x.count(16), 2);
+    }
+
+    private static void eightThings() {
+        PROBE.of("THINGS (at most 8, numbered from 0 on)");
+        ClockShares x = Probe.house("family purse 99 dust 0 stove 0 hours 0 to 0;fine 1;" + "thing 0 bulk 1 left;".repeat(7) + "thing 0 bulk 9 left");
+        PROBE.is("all eight are fined", x.hours(1), 8);
+        PROBE.is("purse", x.family(0, 0), 99 - 16);
+        PROBE.is("the last one is the latest", x.log(0, 4), 9);
+        PROBE.is("none is left", x.count(14), 0);
     }
 
     private static void purseAtLeast() {

@@ -18,6 +18,7 @@ final class EdgesOfHouseTest {
         night();
         wished();
         lessAndMore();
+        pairsOfAtoms();
         partsAtTheirEdges();
         sumsOfLines();
         finedBy();
@@ -216,6 +217,35 @@ final class EdgesOfHouseTest {
         PROBE.is("not of night", holds("not night", 0, 12), true);
         PROBE.is("night that does not hold, and", holds("night and 1<2", 0, 12), false);
         PROBE.is("not of not", holds("not not 1<2", 0, 0), true);
+    }
+
+    /** Each pair of atoms, of which each holds and does not, joined and turned in each way. */
+    private static void pairsOfAtoms() {
+        PROBE.of("ATOM: not ATOM | ( C ) | night | wished | SUM < SUM | SUM > SUM");
+        String[] atoms = {"night", "wished", "hour < 4", "hour > 3", "not night", "not wished", "not hour < 4", "(night)", "not (wished)"};
+        for (String first : atoms) {
+            for (String second : atoms) {
+                for (int hour : new int[] {0, 3, 4, 12}) {
+                    boolean a = atomHolds(first, hour);
+                    boolean b = atomHolds(second, hour);
+                    PROBE.is(first + " and " + second + " at " + hour, holds(first + " and " + second, 0, hour), a && b);
+                    PROBE.is(first + " or " + second + " at " + hour, holds(first + " or " + second, 0, hour), a || b);
+                    PROBE.is("not (" + first + " or " + second + ") at " + hour, holds("not (" + first + " or " + second + ")", 0, hour), !a && !b);
+                }
+            }
+        }
+    }
+
+    /** The first family of the house wishes the hours 3 and 4. */
+    private static boolean atomHolds(String atom, int hour) {
+        return switch (atom) {
+            case "night", "(night)" -> hour < 6 || hour > 21;
+            case "wished" -> hour == 3 || hour == 4;
+            case "hour < 4" -> hour < 4;
+            case "hour > 3", "not hour < 4" -> hour > 3;
+            case "not night" -> hour >= 6 && hour <= 21;
+            default -> hour != 3 && hour != 4;
+        };
     }
 
     /** Each part once as great as can be here and once next to it. */

@@ -178,10 +178,12 @@ final class EdgesOfSharesTest {
         PROBE.is("the first and the last", dealt(2, "1......................0", "x").trade(), 23);
         PROBE.is("of several the least", dealt(2, "0011", "..xx").trade(), 2);
         PROBE.is("the most more, though not the least", dealt(2, "0011", "..xx", ".x").trade(), 24 + 2);
+        PROBE.is("the first hour is no hour behind the last one", dealt(2, "1...0", "", "x...x").trade(), NONE);
         PROBE.of("SWAP; NONE.");
         PROBE.is("of nobody", dealt(1, "0", ".x").trade(), NONE);
         PROBE.is("of one", dealt(1, "00", "..x").trade(), NONE);
         PROBE.is("no families", new ClockShares().trade(), NONE);
+        PROBE.is("six families", dealt(6, "012345", "", "", "", "", ".....x", "....x").trade(), 24 * 4 + 5);
     }
 
     private static void fewest() {
@@ -400,6 +402,7 @@ PROBE.is("six that meet by twos", dealt(6, "010203040512131415232425").lovers(),
         PROBE.is("of one family", dealt(2, "01", "xx", "xx").lesson(2), NONE);
         PROBE.is("of any family", dealt(2, "0.11", "xxxx", "xxxx").lesson(2), 2);
         PROBE.is("of any family", dealt(2, "00.1", "xxxx", "xxxx").lesson(2), 0);
+        PROBE.is("the last of six families", dealt(6, "01234500000000000000555", "", "", "", "", "", "x".repeat(24)).lesson(3), 20);
         PROBE.is("among its own wishes", dealt(2, "01", ".x", "x").lesson(1), NONE);
         PROBE.is("the last hour", dealt(1, ".......................0", "x".repeat(24)).lesson(1), 23);
         PROBE.is("no families", new ClockShares().lesson(1), NONE);
